@@ -22,6 +22,7 @@ public final class ChangesTest {
         undoable();
         saving();
         savedStateStandsAlone();
+        rowsAreUsedAgain();
         withoutText();
         Check.end();
     }
@@ -241,6 +242,8 @@ public final class ChangesTest {
         refused(x, Check.INDEX, "dropGap", 1, 0);
         refused(x, Check.INDEX, "dropGap", 2, 0);
         refused(x, Check.INDEX, "dropGap", -1, LEAST);
+        refused(x, Check.INDEX, "dropGap", -1, 0);
+        refused(x, Check.INDEX, "dropGap", 6, 0);
         x.due(1, "listener", 0, 2);
         x.due(3, "dropGap", 0, 1);
         x.due(0, "listener", 0, 2);
@@ -386,6 +389,63 @@ public final class ChangesTest {
         x.due(1, "correct", 5, 1, 1, 1, 2, 3);
         x.due(5, "number", 1, 0);
         x.due(0, "number", 1, 3);
+        numberGivenAgain();
+        countsComeBack();
+    }
+
+    private static void numberGivenAgain() {
+        Check x = Check.loaded("promise 51: a number again", "radio 0;hears 0");
+        x.due(1, "cancel", 0, 1);
+        x.due(1, "tick", 1);
+        x.due(1, "number", 1, 3);
+        x.due(1, "undo");
+        x.due(0, "undo");
+        x.due(1, "cancel", 0, 1);
+        x.due(0, "number", 1, 3);
+        x.due(0, "hasHeard", 0, 1);
+        Check y = Check.loaded("promise 54: a number again", "radio 0;hears 0");
+        y.due(0, "save", 0);
+        y.due(1, "cancel", 0, 1);
+        y.due(1, "tick", 1);
+        y.due(0, "restore", 0);
+        y.due(1, "cancel", 0, 1);
+        y.due(0, "number", 1, 3);
+        y.due(0, "hasHeard", 0, 1);
+        Check z = Check.loaded("promise 51: a shorter one", "radio 0;hears 0");
+        z.due(0, "whole", 20);
+        z.due(0, "undo");
+        z.due(0, "whole", 1);
+        z.due(1, "tick", 1);
+        z.due(0, "count", 6);
+    }
+
+    /** What was dropped, left out, not heard and so on is as before again, too. */
+    private static void countsComeBack() {
+        Check x = Check.loaded("promises 51 and 54: counts", "radio 3;hears 0;hears 1 off 1 4");
+        x.due(1, "correct", 0, 1, 1, 1, 2, 2);
+        x.due(2, "correct", 0, 2, 1, 1, 2, 1);
+        for (int i = 0; i < 28; i++) {
+            x.due(2, "whole", 20);
+        }
+        // At 3 and 6 there is room for a whole list, at 9 there is none.
+        x.due(2, "tick", 9);
+        String before = x.state();
+        x.due(1, "count", 8);
+        x.due(1, "count", 10);
+        x.due(2, "count", 11);
+        x.due(9, "save", 0);
+        x.due(2, "whole", 4);
+        x.due(2, "tick", 60);
+        x.due(0, "repeat", 1, 1);
+        x.due(2, "tick", 3);
+        x.due(3, "count", 10);
+        for (int i = 0; i < 4; i++) {
+            x.answer("undo");
+        }
+        dueState(x, before);
+        x.due(2, "tick", 60);
+        x.due(9, "restore", 0);
+        dueState(x, before);
     }
 
     private static void undoable() {
@@ -445,6 +505,18 @@ public final class ChangesTest {
     }
 
     /** Numbers that are given once more behind an undo leave what was saved as it was. */
+    private static void rowsAreUsedAgain() {
+        Check x = Check.loaded("section 2: one ends, another begins", "radio 0;hears 9;hears 0");
+        x.due(0, "whole", 20);
+        x.due(2, "tick", 29);
+        x.due(0, "count", 6);
+        x.due(9, "setDelay", 0, 0);
+        x.due(1, "cancel", 0, 1);
+        x.due(2, "tick", 1);
+        x.due(0, "count", 5);
+        x.due(Check.INDEX, "onAir", 0, 0);
+    }
+
     private static void savedStateStandsAlone() {
         Check x = Check.loaded("promise 54: stands alone", "radio 0;hears 0");
         x.due(1, "correct", 2, 5, 5, 5, 6, 9);
@@ -453,10 +525,12 @@ public final class ChangesTest {
         String state = x.state();
         x.due(1, "undo");
         x.due(0, "undo");
+        x.due(1, "tick", 1);
         x.due(1, "correct", 3, 9, 5, 5, 6, 9);
+        x.due(1, "number", 1, 2);
         x.due(1, "whole", 3);
         x.due(1, "tick", 3);
-        x.due(3, "undoable");
+        x.due(4, "undoable");
         x.due(0, "restore", 0);
         dueState(x, state);
         x.due(1, "tick", 3);

@@ -203,6 +203,7 @@ public final class ForecastTest {
         x.due(2, "listener", 0, 1);
         x.due(3, "addGap", 0, 0, 9999);
         x.due(99, "bestPeriod", 0);
+        bestPeriods();
         x.due(Check.INDEX, "sameWithout", 2);
         x.due(Check.INDEX, "sameWithout", -1);
         x.due(Check.INDEX, "sameWith", 2, 100);
@@ -211,6 +212,27 @@ public final class ForecastTest {
         x.due(Check.ARGUMENT, "sameWith", 0, -1);
         x.due(Check.INDEX, "bestPeriod", 2);
         x.due(Check.INDEX, "bestPeriod", -1);
+    }
+
+    private static void bestPeriods() {
+        Check x = Check.loaded("promise 35", "radio 0;hears 0 off 1 1;hears 9");
+        x.due(1, "correct", 0, 1, 0, 0, 9, 1);
+        // The first whole list is on the air at 1 only with the PERIOD 1, and at 2 with 1 and 2.
+        x.due(1, "bestPeriod", 0);
+        x.due(6, "sameWith", 0, 1);
+        x.due(7, "sameWith", 0, 2);
+        x.due(99, "bestPeriod", 1);
+        x.due(0, "tick", 1);
+        x.due(2, "bestPeriod", 0);
+        x.due(6, "sameWith", 0, 2);
+        x.due(1, "tick", 47);
+        x.due(49, "bestPeriod", 0);
+        x.due(1, "tick", 50);
+        x.due(98, "count", 3);
+        x.due(2, "correct", 0, 2, 0, 0, 9, 7);
+        // On the air at 99 with 99: heard at 104, a tick ahead of the correction.
+        x.due(99, "bestPeriod", 0);
+        x.due(7, "sameWith", 0, 98);
     }
 
     private static void nothingChanges() {

@@ -7,6 +7,7 @@ public final class InputTest {
         appending();
         loading();
         boundsOfLoading();
+        partOfTheBuffer();
         failedLoadKeepsRadio();
         loadReplacesAll();
         wordsAndNumbers();
@@ -87,6 +88,23 @@ public final class InputTest {
         x.due(-1, "errorPosition");
     }
 
+    /** Bytes behind the first n ones do not belong to the text. */
+    private static void partOfTheBuffer() {
+        Check x = new Check("promise 3: part of the buffer");
+        x.put("radio 1;hears 12");
+        x.due(1, "load", 15);
+        x.due(1, "listener", 0, 0);
+        x.put("radio 15;hears 1");
+        x.due(Check.ARGUMENT, "load", 7);
+        x.due(7, "errorPosition");
+        x.put("radio 1;hears 1");
+        x.due(Check.ARGUMENT, "load", 12);
+        x.due(8, "errorPosition");
+        x.put("radio 1;hears 1 off 3 45");
+        x.due(1, "load", 23);
+        x.due(4, "gap", 0, 0, 1);
+    }
+
     private static void failedLoadKeepsRadio() {
         Check x = Check.loaded("promise 3: a failed load", "radio 3;hears 1");
         x.due(1, "cancel", 4, 1);
@@ -110,7 +128,12 @@ public final class InputTest {
         x.due(1, "cancel", 0, 9);
         x.due(1, "whole", 9);
         x.due(0, "tick", 5);
-        x.due(5, "save", 0);
+        x.due(2, "correct", 3, 1, 1, 1, 2, 1);
+        x.due(0, "tick", 1);
+        x.due(1, "addGap", 0, 0, 9);
+        // What would be must leave nothing behind for the next text either.
+        x.due(6, "sameWith", 0, 2);
+        x.due(6, "save", 0);
         x.put("radio 4;hears 8;hears 2");
         x.due(2, "load", 23);
         int[] counts = {0, 2, 4, 0, 0, 0, 0, 0, 0, 2, 0, 0};
@@ -120,11 +143,43 @@ public final class InputTest {
         x.due(0, "undoable");
         x.due(Check.STATE, "undo");
         x.due(Check.STATE, "restore", 0);
-        x.due(0, "stop", 0, 0, 4);
-        x.due(-1, "stop", 0, 0, 0);
+        for (int k = 0; k < 12; k++) {
+            for (int l = -1; l < 2; l++) {
+                x.due(0, "stop", l, k, 4);
+                x.due(-1, "stop", l, k, 0);
+            }
+        }
+        for (int what = 1; what < 12; what++) {
+            x.due(what == 10 ? 1 : 0, "listener", 0, what);
+        }
+        x.due(-1, "gap", 0, 0, 0);
+        x.due(8, "listener", 0, 0);
         x.due(Check.INDEX, "onAir", 0, 0);
         x.due(1, "cancel", 0, 1);
         x.due(0, "number", 1, 3);
+        loadBehindMuch();
+    }
+
+    private static void loadBehindMuch() {
+        Check x = Check.loaded("promise 3: all begins anew", "radio 1;stop 1 1 1 2;hears 1");
+        for (int i = 0; i < 30; i++) {
+            x.due(0, "whole", 8);
+        }
+        x.due(1, "tick", 9);
+        x.due(1, "cancel", 0, 1);
+        x.due(0, "repeat", 1, 2);
+        x.due(1, "tick", 3);
+        x.due(1, "count", 10);
+        x.due(9, "count", 8);
+        x.due(0, "sameIn", 0);
+        x.put("radio 1;stop 2 2 2 3;hears 1");
+        x.due(1, "load", 28);
+        x.due(2, "stop", -1, 0, 0);
+        x.due(2, "stop", 0, 0, 0);
+        x.due(-1, "stop", 0, 1, 0);
+        for (int what = 4; what < 12; what++) {
+            x.due(what == 9 ? 1 : 0, "count", what);
+        }
     }
 
     /** The error of a text, on a new object and on one that has a radio. */
@@ -153,6 +208,15 @@ public final class InputTest {
         error(1, 0, "Radio 1;hears 1");
         error(1, 0, "radiox 1;hears 1");
         error(1, 0, "radi");
+        error(1, 0, "badio 1;hears 1");
+        error(1, 8, "radio 1;ctop 1 1 1 2;hears 1");
+        error(1, 8, "radio 1;tears 1");
+        error(1, 8, "radio 1;hearsz 1");
+        error(1, 8, "radio 1;ahears 1");
+        error(1, 8, "radio 1;`ears 1");
+        error(1, 15, "radio 1;hears 1/");
+        error(1, 15, "radio 1;hears 1:");
+        error(1, 15, "radio 1;hears 1{");
         error(1, 0, "radioxyz 1;hears 1");
         error(1, 6, "radio 00001;hears 1");
         error(1, 6, "radio 99999999999999999999;hears 1");

@@ -10,6 +10,7 @@ public final class ListenersTest {
         same();
         wrongMinutes();
         worst();
+        sixListeners();
         behind();
         overtakes();
         withoutText();
@@ -186,6 +187,41 @@ public final class ListenersTest {
         x.due(2, "correct", 0, 1, 0, 0, 99, 9);
         // Listener 2 is wrong in one minute now, the others in 99.
         x.due(0, "worst");
+        Check y = Check.loaded("promise 23: one minute", "radio 0;stop 1 0 0 1;hears 0;hears 5");
+        y.due(1, "cancel", 0, 1);
+        y.due(1, "tick", 1);
+        y.due(1, "worst");
+    }
+
+    private static void sixListeners() {
+        Check x = Check.loaded("promises 17 to 25: six listeners", "radio 3;stop 1 0 0 100"
+                + ";hears 0;hears 1;hears 2;hears 3;hears 4;hears 9 off 2 90");
+        x.due(1, "correct", 0, 2, 0, 0, 100, 2);
+        for (int l = 0; l < 6; l++) {
+            x.due(100, "wrongMinutes", l);
+            x.due(l == 5 ? -1 : 2 + l, "heardIn", l, 1);
+            x.due(0, "overtakes", l);
+        }
+        x.due(63, "onAir", 0, 5);
+        x.due(0, "worst");
+        x.due(66f / 72f, "sameShare");
+        x.due(1.0, "meanBehind");
+        x.due(92, "sameIn", 5);
+        x.due(5, "tick", 6);
+        x.due(5, "count", 9);
+        x.due(32, "onAir", 0, 5);
+        x.due(31, "number", 1, 3);
+        x.due(5, "worst");
+        x.due(71f / 72f, "sameShare");
+        x.due(1.0 / 6.0, "meanBehind");
+        x.due(5, "tick", 5);
+        x.due(1, "count", 11);
+        x.due(0, "count", 10);
+        x.due(Check.INDEX, "listener", 6, 0);
+        x.due(Check.INDEX, "stop", 6, 0, 0);
+        x.due(Check.INDEX, "hasHeard", 6, 1);
+        x.due(Check.INDEX, "sameIn", 6);
+        x.due(Check.INDEX, "setDelay", 6, 0);
     }
 
     private static void behind() {
@@ -229,6 +265,11 @@ public final class ListenersTest {
         dueOvertakes(x, 0, 1);
         x.due(1, "count", 10);
         x.due(1, "listener", 0, 1);
+        // A whole list that is not on the air yet is left aside.
+        x.due(0, "setPeriod", 11);
+        dueOvertakes(x, 0, 1);
+        x.due(4, "correct", 5, 1, 0, 0, 9, 20);
+        dueOvertakes(x, 0, 1);
         x.due(Check.INDEX, "overtakes", 2);
         x.due(Check.INDEX, "overtakes", -1);
     }

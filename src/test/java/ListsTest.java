@@ -263,6 +263,9 @@ public final class ListsTest {
         dueMerged(x, 0, 2, new int[][] {{4, 150, 250, 1}});
         x.due(0, "merged", -1, 0);
         dueMerged(x, -1, 0, new int[0][4]);
+        dueMerged(x, -1, 1, stops);
+        x.due(0, "merged", -1, 6);
+        x.due(-1, "mergedStop", -1, 6, 0, 0);
         x.due(1, "cancel", 2, 1);
         x.due(5, "merged", -1, 1);
         x.due(4, "merged", 0, 1);

@@ -10,6 +10,8 @@ public final class RandomRunsTest {
     private static final int CALLS = 512;
     private static final String[] CHANGES = {"correct", "cancel", "repeat", "whole", "tick", "tick",
         "addGap", "dropGap", "setDelay", "setPeriod", "fetch", "undo", "save", "restore"};
+    private static final int[] EDGES = {Integer.MIN_VALUE, Integer.MAX_VALUE, -2, -1, 3, 4, 5, 6, 7,
+        8, 9, 10, 11, 12, 20, 21, 29, 30, 60, 61, 99, 100, 200, 201, 1438, 1439, 1440, 9999, 10000};
     private static final List<Method> FACE = face();
 
     private final Random random;
@@ -76,10 +78,22 @@ public final class RandomRunsTest {
         }
         for (Method method : FACE) {
             if (method.getName().equals(name)) {
-                return compare(name, arguments(name, method.getParameterCount()));
+                int parameters = method.getParameterCount();
+                return compare(name, random.nextInt(15) == 0 ? wild(parameters)
+                        : arguments(name, parameters));
             }
         }
         throw new IllegalStateException(name);
+    }
+
+    /** Arguments from the edges of all that the document bounds. */
+    private int[] wild(int size) {
+        int[] wild = new int[size];
+        for (int i = 0; i < size; i++) {
+            wild[i] = random.nextInt(3) == 0 ? random.nextInt(3)
+                    : EDGES[random.nextInt(EDGES.length)];
+        }
+        return wild;
     }
 
     private int[] some(int size, int most) {
