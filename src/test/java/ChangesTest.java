@@ -27,15 +27,6 @@ public final class ChangesTest {
         Check.end();
     }
 
-    /** A call that is refused, and changes nothing. */
-    private static void refused(Check x, String exception, String name, int... args) {
-        String before = x.state() + x.answer("undoable");
-        x.due(exception, name, args);
-        if (!before.equals(x.state() + x.answer("undoable"))) {
-            Check.tell(name + " was refused, but changed something");
-        }
-    }
-
     private static void correct() {
         Check x = Check.loaded("promise 41", "radio 0;stop 1 1 1 2;hears 0;hears 3");
         x.due(1, "correct", 0, 29, 6, 1438, 1439, 20);
@@ -61,22 +52,22 @@ public final class ChangesTest {
 
     private static void wrongCorrections() {
         Check x = Check.loaded("promise 41: wrong numbers", "radio 0;hears 0");
-        refused(x, Check.INDEX, "correct", -1, 99, 0, 0, 1, 1);
-        refused(x, Check.INDEX, "correct", 12, 0, 0, 0, 1, 0);
+        x.refused(Check.INDEX, "correct", -1, 99, 0, 0, 1, 1);
+        x.refused(Check.INDEX, "correct", 12, 0, 0, 0, 1, 0);
         int[][] wrong = {{-1, 0, 0, 1, 1}, {30, 0, 0, 1, 1}, {0, -1, 0, 1, 1}, {0, 7, 0, 1, 1},
             {0, 0, -1, 1, 1}, {0, 0, 1439, 1440, 1}, {0, 0, 5, 5, 1}, {0, 0, 5, 4, 1},
             {0, 0, 0, 1440, 1}, {0, 0, MOST, LEAST, 1}, {0, 0, 0, 1, 0}, {0, 0, 0, 1, 21},
             {0, 0, 0, 1, LEAST}, {0, 0, 0, 1, MOST}};
         for (int[] w : wrong) {
-            refused(x, Check.ARGUMENT, "correct", 0, w[0], w[1], w[2], w[3], w[4]);
+            x.refused(Check.ARGUMENT, "correct", 0, w[0], w[1], w[2], w[3], w[4]);
         }
-        refused(x, Check.INDEX, "cancel", -1, 0);
-        refused(x, Check.INDEX, "cancel", 12, 1);
-        refused(x, Check.ARGUMENT, "cancel", 0, 0);
-        refused(x, Check.ARGUMENT, "cancel", 0, 21);
-        refused(x, Check.ARGUMENT, "whole", 0);
-        refused(x, Check.ARGUMENT, "whole", 21);
-        refused(x, Check.ARGUMENT, "repeat", 1, 1);
+        x.refused(Check.INDEX, "cancel", -1, 0);
+        x.refused(Check.INDEX, "cancel", 12, 1);
+        x.refused(Check.ARGUMENT, "cancel", 0, 0);
+        x.refused(Check.ARGUMENT, "cancel", 0, 21);
+        x.refused(Check.ARGUMENT, "whole", 0);
+        x.refused(Check.ARGUMENT, "whole", 21);
+        x.refused(Check.ARGUMENT, "repeat", 1, 1);
     }
 
     private static void lastNumber() {
@@ -85,8 +76,8 @@ public final class ChangesTest {
             x.due(n, "correct", n % 12, n % 30, 0, n, n + 1, 1);
             x.due(1, "tick", 1);
         }
-        refused(x, Check.ARGUMENT, "correct", 0, 0, 0, 0, 1, 1);
-        refused(x, Check.ARGUMENT, "cancel", 0, 1);
+        x.refused(Check.ARGUMENT, "correct", 0, 0, 0, 0, 1, 1);
+        x.refused(Check.ARGUMENT, "cancel", 0, 1);
         x.due(99, "whole", 1);
         x.due(3, "repeat", 99, 1);
         x.due(99, "listener", 0, 5);
@@ -101,16 +92,16 @@ public final class ChangesTest {
         for (int i = 1; i < 30; i++) {
             x.due(0, "repeat", 1, 2);
         }
-        refused(x, Check.ARGUMENT, "correct", 0, 0, 0, 0, 1, 1);
-        refused(x, Check.ARGUMENT, "cancel", 0, 1);
-        refused(x, Check.ARGUMENT, "repeat", 1, 1);
-        refused(x, Check.ARGUMENT, "whole", 1);
+        x.refused(Check.ARGUMENT, "correct", 0, 0, 0, 0, 1, 1);
+        x.refused(Check.ARGUMENT, "cancel", 0, 1);
+        x.refused(Check.ARGUMENT, "repeat", 1, 1);
+        x.refused(Check.ARGUMENT, "whole", 1);
         // At 1 the first listener has heard the first one, at 2 both have.
         x.due(2, "tick", 1);
-        refused(x, Check.ARGUMENT, "cancel", 0, 1);
+        x.refused(Check.ARGUMENT, "cancel", 0, 1);
         x.due(2, "tick", 1);
         x.due(2, "cancel", 0, 1);
-        refused(x, Check.ARGUMENT, "cancel", 0, 1);
+        x.refused(Check.ARGUMENT, "cancel", 0, 1);
     }
 
     private static void cancel() {
@@ -143,12 +134,12 @@ public final class ChangesTest {
         x.due(0, "listener", 1, 7);
         x.due(7, "stop", 1, 4, 0);
         x.due(1, "stop", 1, 4, 4);
-        refused(x, Check.ARGUMENT, "repeat", 0, 1);
-        refused(x, Check.ARGUMENT, "repeat", 3, 1);
-        refused(x, Check.ARGUMENT, "repeat", LEAST, 1);
-        refused(x, Check.ARGUMENT, "repeat", MOST, 1);
-        refused(x, Check.ARGUMENT, "repeat", 1, 0);
-        refused(x, Check.ARGUMENT, "repeat", 1, 21);
+        x.refused(Check.ARGUMENT, "repeat", 0, 1);
+        x.refused(Check.ARGUMENT, "repeat", 3, 1);
+        x.refused(Check.ARGUMENT, "repeat", LEAST, 1);
+        x.refused(Check.ARGUMENT, "repeat", MOST, 1);
+        x.refused(Check.ARGUMENT, "repeat", 1, 0);
+        x.refused(Check.ARGUMENT, "repeat", 1, 21);
     }
 
     private static void whole() {
@@ -173,11 +164,11 @@ public final class ChangesTest {
 
     private static void tick() {
         Check x = Check.loaded("promise 45", "radio 0;stop 1 1 1 2;hears 0;hears 1;hears 2");
-        refused(x, Check.ARGUMENT, "tick", 0);
-        refused(x, Check.ARGUMENT, "tick", -1);
-        refused(x, Check.ARGUMENT, "tick", 61);
-        refused(x, Check.ARGUMENT, "tick", LEAST);
-        refused(x, Check.ARGUMENT, "tick", MOST);
+        x.refused(Check.ARGUMENT, "tick", 0);
+        x.refused(Check.ARGUMENT, "tick", -1);
+        x.refused(Check.ARGUMENT, "tick", 61);
+        x.refused(Check.ARGUMENT, "tick", LEAST);
+        x.refused(Check.ARGUMENT, "tick", MOST);
         x.due(1, "cancel", 0, 1);
         x.due(1, "tick", 1);
         x.due(2, "tick", 1);
@@ -186,10 +177,10 @@ public final class ChangesTest {
             x.due(3, "tick", 60);
         }
         x.due(9963, "count", 3);
-        refused(x, Check.ARGUMENT, "tick", 37);
+        x.refused(Check.ARGUMENT, "tick", 37);
         x.due(3, "tick", 36);
         x.due(9999, "count", 3);
-        refused(x, Check.ARGUMENT, "tick", 1);
+        x.refused(Check.ARGUMENT, "tick", 1);
         x.due(2, "cancel", 0, 1);
         x.due(0, "onAir", 0, 1);
     }
@@ -230,20 +221,20 @@ public final class ChangesTest {
         x.due(2, "addGap", 0, 0, 9999);
         x.due(3, "addGap", 0, 9999, 9999);
         x.due(4, "addGap", 0, 7, 7);
-        refused(x, Check.ARGUMENT, "addGap", 0, 1, 1);
-        refused(x, Check.ARGUMENT, "addGap", 1, -1, 1);
-        refused(x, Check.ARGUMENT, "addGap", 1, 10000, 10000);
-        refused(x, Check.ARGUMENT, "addGap", 1, 5, 4);
-        refused(x, Check.ARGUMENT, "addGap", 1, 5, 10000);
-        refused(x, Check.INDEX, "addGap", 2, -1, 0);
-        refused(x, Check.INDEX, "addGap", -1, 0, 0);
-        refused(x, Check.INDEX, "dropGap", 0, 4);
-        refused(x, Check.INDEX, "dropGap", 0, -1);
-        refused(x, Check.INDEX, "dropGap", 1, 0);
-        refused(x, Check.INDEX, "dropGap", 2, 0);
-        refused(x, Check.INDEX, "dropGap", -1, LEAST);
-        refused(x, Check.INDEX, "dropGap", -1, 0);
-        refused(x, Check.INDEX, "dropGap", 6, 0);
+        x.refused(Check.ARGUMENT, "addGap", 0, 1, 1);
+        x.refused(Check.ARGUMENT, "addGap", 1, -1, 1);
+        x.refused(Check.ARGUMENT, "addGap", 1, 10000, 10000);
+        x.refused(Check.ARGUMENT, "addGap", 1, 5, 4);
+        x.refused(Check.ARGUMENT, "addGap", 1, 5, 10000);
+        x.refused(Check.INDEX, "addGap", 2, -1, 0);
+        x.refused(Check.INDEX, "addGap", -1, 0, 0);
+        x.refused(Check.INDEX, "dropGap", 0, 4);
+        x.refused(Check.INDEX, "dropGap", 0, -1);
+        x.refused(Check.INDEX, "dropGap", 1, 0);
+        x.refused(Check.INDEX, "dropGap", 2, 0);
+        x.refused(Check.INDEX, "dropGap", -1, LEAST);
+        x.refused(Check.INDEX, "dropGap", -1, 0);
+        x.refused(Check.INDEX, "dropGap", 6, 0);
         x.due(1, "listener", 0, 2);
         x.due(3, "dropGap", 0, 1);
         x.due(0, "listener", 0, 2);
@@ -287,10 +278,10 @@ public final class ChangesTest {
         x.due(3, "heardIn", 1, 1);
         x.due(1, "listener", 0, 0);
         x.due(0, "listener", 1, 0);
-        refused(x, Check.INDEX, "setDelay", 2, 10);
-        refused(x, Check.INDEX, "setDelay", -1, 0);
-        refused(x, Check.ARGUMENT, "setDelay", 0, 10);
-        refused(x, Check.ARGUMENT, "setDelay", 0, -1);
+        x.refused(Check.INDEX, "setDelay", 2, 10);
+        x.refused(Check.INDEX, "setDelay", -1, 0);
+        x.refused(Check.ARGUMENT, "setDelay", 0, 10);
+        x.refused(Check.ARGUMENT, "setDelay", 0, -1);
     }
 
     private static void periods() {
@@ -305,8 +296,8 @@ public final class ChangesTest {
         x.due(1, "count", 7);
         x.due(5, "onAir", 0, 3);
         x.due(61, "onAir", 0, 2);
-        refused(x, Check.ARGUMENT, "setPeriod", 100);
-        refused(x, Check.ARGUMENT, "setPeriod", -1);
+        x.refused(Check.ARGUMENT, "setPeriod", 100);
+        x.refused(Check.ARGUMENT, "setPeriod", -1);
     }
 
     private static void fetch() {
@@ -331,8 +322,8 @@ public final class ChangesTest {
         x.due(3, "listener", 0, 7);
         x.due(3, "listener", 0, 5);
         x.due((1 << 11) + 1, "fetch", 1);
-        refused(x, Check.INDEX, "fetch", 2);
-        refused(x, Check.INDEX, "fetch", -1);
+        x.refused(Check.INDEX, "fetch", 2);
+        x.refused(Check.INDEX, "fetch", -1);
         baseStays();
     }
 
@@ -492,10 +483,10 @@ public final class ChangesTest {
         x.due(6, "save", 0);
         x.due(6, "restore", 0);
         dueState(x, first);
-        refused(x, Check.INDEX, "save", 2);
-        refused(x, Check.INDEX, "save", -1);
-        refused(x, Check.INDEX, "restore", 2);
-        refused(x, Check.INDEX, "restore", -1);
+        x.refused(Check.INDEX, "save", 2);
+        x.refused(Check.INDEX, "save", -1);
+        x.refused(Check.INDEX, "restore", 2);
+        x.refused(Check.INDEX, "restore", -1);
     }
 
     private static void dueState(Check x, String want) {

@@ -1,6 +1,8 @@
 import java.lang.reflect.InvocationTargetException;
 import java.lang.reflect.Method;
 import java.util.Arrays;
+import java.util.HashMap;
+import java.util.Map;
 
 /** Calls one object by the names of its methods, and tells every answer that is not due. */
 final class Check {
@@ -11,6 +13,7 @@ final class Check {
     private static int wrong;
     private final String title;
     private final Object object;
+    private final Map<String, Method> methods = new HashMap<>();
 
     Check(String title) {
         this(title, new BookmobileRadio());
@@ -19,6 +22,9 @@ final class Check {
     Check(String title, Object object) {
         this.title = title;
         this.object = object;
+        for (Method method : object.getClass().getDeclaredMethods()) {
+            methods.put(method.getName(), method);
+        }
     }
 
     /** A new object on which a text was loaded. */
@@ -57,12 +63,11 @@ final class Check {
     }
 
     private Method method(String name) {
-        for (Method method : object.getClass().getDeclaredMethods()) {
-            if (method.getName().equals(name)) {
-                return method;
-            }
+        Method method = methods.get(name);
+        if (method == null) {
+            throw new IllegalStateException("no method " + name);
         }
-        throw new IllegalStateException("no method " + name);
+        return method;
     }
 
     void due(Object want, String name, int... args) {
@@ -96,7 +101,7 @@ final class Check {
         for (int what = 0; what < 12; what++) {
             all.append(' ').append(answer("count", what));
         }
-        for (int l = -1; l < 6; l++) {
+        for (int l = -1; l <= size(1); l++) {
             for (int what = 0; what < 12; what++) {
                 all.append(' ').append(answer("listener", l, what));
             }
@@ -107,13 +112,56 @@ final class Check {
                 all.append(' ').append(answer("gap", l, i / 2, i % 2));
             }
         }
-        for (int i = 0; i < 180; i++) {
+        for (int i = 0; i < 6 * (size(5) + size(6) + 1); i++) {
             all.append(' ').append(answer("onAir", i / 6, i % 6));
         }
-        for (int i = 0; i < 500; i++) {
+        for (int i = 0; i < 5 * (size(4) + 2); i++) {
             all.append(' ').append(answer("number", i / 5, i % 5));
         }
         return all.toString();
+    }
+
+    /** A count; 0 if there is no radio. */
+    private int size(int what) {
+        String count = answer("count", what);
+        return count.equals(STATE) ? 0 : Integer.parseInt(count);
+    }
+
+    /** All that a call may tell without changing anything. */
+    String everything() {
+        StringBuilder all = new StringBuilder(state());
+        for (String name : new String[] {"parseError", "errorPosition", "buffered", "undoable"}) {
+            all.append(' ').append(name).append(' ').append(answer(name));
+        }
+        String sign = answer("textByte", 0);
+        for (int i = 1; i < 1000 && !sign.equals(INDEX); i++) {
+            all.append(' ').append(sign);
+            sign = answer("textByte", i);
+        }
+        return all.toString();
+    }
+
+    /** What lies behind: the states that undo leads to, and those that are saved. Uses them up. */
+    String past() {
+        StringBuilder all = new StringBuilder();
+        String left = answer("undo");
+        while (!left.equals(STATE)) {
+            all.append(left).append(state());
+            left = answer("undo");
+        }
+        for (int slot = 0; slot < 2; slot++) {
+            all.append(answer("restore", slot)).append(state());
+        }
+        return all.toString();
+    }
+
+    /** A call that is refused, and changes nothing. */
+    void refused(String exception, String name, int... args) {
+        String before = everything();
+        due(exception, name, args);
+        if (!before.equals(everything())) {
+            tell(title + ": " + name + Arrays.toString(args) + " was refused, but changed something");
+        }
     }
 
     static void tell(String fault) {
