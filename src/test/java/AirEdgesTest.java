@@ -81,9 +81,15 @@ public final class AirEdgesTest {
         x.due(2, "tick", 6);
         x.due(1, "number", 1, 4);
         x.due(1, "onAir", 0, 4);
+        x.due(1, "whole", 20);
+        x.due(2, "cancel", 4, 20);
         x.due(2, "tick", 1);
+        // A whole list of its number, and another correction are no correction 1 on the air.
         x.due(0, "number", 1, 4);
-        x.due(0, "count", 5);
+        x.due(1, "number", 2, 4);
+        x.due(9, "number", 2, 2);
+        x.due(0, "number", 1, 2);
+        x.due(1, "count", 5);
         x.due(3, "number", 1, 3);
         x.due(1, "listener", 2, 11);
         x.due(3, "repeat", 1, 1);
@@ -279,6 +285,7 @@ public final class AirEdgesTest {
         x.due(1, "tick", 4);
         x.due(0, "listener", 0, 7);
         x.due(2, "stop", 0, 0, 4);
+        aheadOfAll();
         Check y = Check.loaded("section 3: a correction and a list of a greater number",
                 "radio 0;hears 0");
         y.due(1, "correct", 0, 1, 1, 1, 2, 20);
@@ -299,6 +306,25 @@ public final class AirEdgesTest {
         z.due(1, "tick", 16);
         z.due(1, "listener", 0, 7);
         z.due(1, "count", 10);
+    }
+
+    /** The one that goes on the air last may be heard ahead of all others, at its time. */
+    private static void aheadOfAll() {
+        Check x = Check.loaded("section 3: ahead of all", "radio 0;hears 0 off 1 1");
+        x.due(1, "correct", 0, 1, 1, 1, 2, 1);
+        x.due(0, "tick", 1);
+        x.due(2, "correct", 0, 2, 1, 1, 2, 4);
+        x.due(2, "whole", 4);
+        x.due(0, "repeat", 1, 4);
+        int[] order = {1, 2, 2};
+        for (int i = 0; i < order.length; i++) {
+            x.due(order[i], "onAir", i, 0);
+            x.due(i < 2 ? 0 : -1, "onAir", i, 1);
+        }
+        x.due(1, "tick", 4);
+        x.due(0, "listener", 0, 7);
+        x.due(2, "listener", 0, 5);
+        x.due(2, "stop", 0, 0, 4);
     }
 
     /** Dropped unless the number is greater than the version: 1 less, the same, 1 more. */
@@ -605,6 +631,15 @@ public final class AirEdgesTest {
         y.due(29, "overtakes", 1);
         y.due(0, "fetch", 1);
         y.due(30, "overtakes", 1);
+        // What was dropped before does not count, nor do whole lists that are not on the air yet.
+        y.due(2, "tick", 19);
+        y.due(29, "listener", 0, 7);
+        y.due(0, "overtakes", 0);
+        y.due(29, "overtakes", 1);
+        y.due(2, "cancel", 0, 20);
+        y.due(0, "setPeriod", 1);
+        y.due(0, "overtakes", 0);
+        y.due(29, "overtakes", 1);
     }
 
     /** The base becomes that of the latest correction only if this is greater. */

@@ -32,7 +32,7 @@ public final class FaceTest {
         Set<String> want = new TreeSet<>();
         String face = document.substring(document.indexOf("```java") + 7);
         for (String line : face.substring(0, face.indexOf("```")).split("\n")) {
-            String told = line.replaceAll(" (throws|=).*", "").replaceAll("[;{}]", "").strip();
+            String told = line.replaceAll(" =.*", "").replaceAll("[;{}]", "").strip();
             if (told.startsWith("public ") && !told.contains(" class ")) {
                 want.add(told.replaceAll("(int|,) [a-z]\\w*(?=[,)])", "$1").replace(", ", ","));
             }
@@ -57,7 +57,7 @@ public final class FaceTest {
 
     private static void note(Set<String> got, int modifiers, String told) {
         if (!Modifier.isPrivate(modifiers)) {
-            got.add(told.replaceAll(" throws.*", "").replace("BookmobileRadio.", ""));
+            got.add(told.replace("java.lang.", "").replace("BookmobileRadio.", ""));
         }
     }
 

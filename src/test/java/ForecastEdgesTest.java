@@ -187,7 +187,7 @@ public final class ForecastEdgesTest {
         x.due(-1, "wholeIn");
     }
 
-    /** The longest way of a whole list without gaps: 99 ticks to it, LENGTH 5 and DELAY 9. */
+    /** The longest way of a whole list if there is room: 99 ticks to it, LENGTH 5 and DELAY 9. */
     private static void withoutGaps() {
         Check x = Check.loaded("promise 33", "radio 0;hears 9 off 0 99 off 212 212;hears 0");
         x.due(2, "tick", 60);
@@ -203,6 +203,22 @@ public final class ForecastEdgesTest {
         x.due(-1, "sameIn", 0);
         x.due(2, "listener", 0, 1);
         x.due(0, "sameWithout", 1);
+        longestWait();
+    }
+
+    /** The list at 99 is left out, as all on the air end just then: the next one is heard at 212. */
+    private static void longestWait() {
+        Check x = Check.loaded("promise 33: a list left out", "radio 99;hears 9 off 70 70 off 212 212");
+        x.due(1, "tick", 60);
+        x.due(1, "correct", 0, 1, 1, 1, 2, 1);
+        x.due(0, "tick", 10);
+        x.due(2, "cancel", 1, 20);
+        for (int i = 1; i < 30; i++) {
+            x.due(1, "repeat", 2, 20);
+        }
+        x.due(142, "sameWithout", 0);
+        x.due(-1, "sameIn", 0);
+        x.due(29, "heardIn", 0, 2);
     }
 
     private static void withAnotherPeriod() {

@@ -245,6 +245,7 @@ public final class ListEdgesTest {
         x.due(1, "tick", 1);
         x.due(0, "wrongMinutes", 0);
         x.due(1, "wrongMinutes", 1);
+        x.due(1, "worst");
         x.due(2, "correct", 1, 0, 6, 1438, 1439, 1);
         x.due(1, "wrongMinutes", 0);
         x.due(2, "wrongMinutes", 1);

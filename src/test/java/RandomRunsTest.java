@@ -61,7 +61,20 @@ public final class RandomRunsTest {
             } else {
                 fine = call(FACE.get(random.nextInt(FACE.size())).getName());
             }
-            if (!fine) {
+            if (!fine || !isPublishedIfNoneMissed()) {
+                return false;
+            }
+        }
+        return true;
+    }
+
+    /** Section 3: who misses none and has heard of the latest correction has the published list. */
+    private boolean isPublishedIfNoneMissed() {
+        for (int l = 0; l < number(real.answer("count", 1)); l++) {
+            if (real.answer("listener", l, 6).equals("0")
+                    && real.answer("listener", l, 4).equals(real.answer("count", 4))
+                    && !real.answer("listener", l, 10).equals("1")) {
+                Check.tell("listener " + l + " misses none, but has another list");
                 return false;
             }
         }

@@ -119,15 +119,15 @@ public final class TextEdgesTest {
     }
 
     private static void lettersOfAWord() {
-        for (String word : new String[] {"r", "radi", "adio", "radix", "radios", "zradio", "radioxx",
+        for (String word : new String[] {"r", "radi", "adio", "sadio", "radix", "radios", "zradio", "radioxx",
             "a", "zzzzzz", "zzzzzzz", "radioradio", "stop", "hears", "off"}) {
             error(1, 2, "  " + word + " 1;hears 1");
         }
-        for (String word : new String[] {"s", "sto", "stopp", "stoq", "stoppp", "stopppp", "hear",
+        for (String word : new String[] {"s", "sto", "ttop", "iears", "stopp", "stoq", "stoppp", "stopppp", "hear",
             "hearss", "hearsss", "heart", "off", "radio", "o"}) {
             error(1, 9, "radio 1; " + word + " 1 1 1 2");
         }
-        for (String word : new String[] {"o", "of", "offf", "ofg", "offfffff", "hears", "stop"}) {
+        for (String word : new String[] {"o", "of", "pff", "offf", "ofg", "offfffff", "hears", "stop"}) {
             error(1, 15, "radio 1;hears 1" + word + " 1 2");
         }
     }
